@@ -96,6 +96,8 @@ public final class AskedTest {
         z.ask(0, 1, true);
         z.ask(1, 2, false);
         due.is("27: four pairs", z.askNext(), 14);
+        due.is("27: name 0", Due.houseOf("h1 0;m0 0;m0 1;").askNext(), 0);
+        due.is("27: a name that none has lights none", Due.houseOf("h1 0;m0 8;m0 9;").askNext(), 8);
     }
 
     private static void promise28() {
@@ -156,6 +158,9 @@ public final class AskedTest {
     private static void promise31() {
         due.is("31: no book", new GreetedMirrors().judge(), Due.NONE);
         GreetedMirrors x = Due.houseOf("h1 1023;m0 1;m0 2;m0 3;");
+        x.write(2, 4);
+        due.is("31: the first entry", x.judge(), 0);
+        x.tear();
         x.write(2, 3);
         x.write(0, 1);
         due.is("31: all is so", x.judge(), Due.NONE);

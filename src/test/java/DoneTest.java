@@ -74,6 +74,10 @@ public final class DoneTest {
 
         GreetedMirrors y = Due.houseOf("h2 7;d0 1;m0 1;m1 2;b2 9;");
         outOfBreath(y);
+        due.is("11: greeted at the bound", y.greet(0, 1), 0);
+        due.is("11: breath above the bound", y.told(11), 90001);
+        due.is("11: above the bound in that room", y.greet(0, 1), Due.FULL);
+        y.undo();
         due.is("10: a step at the bound", y.step(1), 90001);
         due.is("10: above the bound", y.step(0), Due.FULL);
         due.is("10: not before full", y.step(1), Due.NOT);
@@ -284,6 +288,7 @@ public final class DoneTest {
         due.is("17: steam of forty evenings", bare.told(9), steamed);
         due.is("17: no draw for what there is not", bare.seed(0), seedAfter(draws));
 
+        promise17Persons();
         GreetedMirrors x = Due.houseOf("h2 0;m0 1;m1 2;m1 3;o1 2;");
         x.drift(40);
         due.is("17: no breath", x.told(11), 0);
@@ -294,6 +299,44 @@ public final class DoneTest {
         due.is("17: its own name ends the count", y.mirror(0, 4), 0);
         due.is("17: one undo for all of it", y.undo(), 1);
         due.is("17: the count is back", y.mirror(0, 4), 1);
+    }
+
+    private static void promise17Persons() {
+        GreetedMirrors x = Due.houseOf("h5 0;p0;p0;p0;m3 0;m4 1;m4 2;m1 3;");
+        int seen = x.drift(30);
+        int draws = 0;
+        int steamed = 0;
+        int lit = 0;
+        int[] rooms = new int[3];
+        for (int evening = 0; evening < 30; evening++) {
+            int kind = draw(draws++, 3);
+            if (kind == 0) {
+                steamed |= 1 << draw(draws++, 5);
+            } else if (kind == 1) {
+                int p = draw(draws++, 3);
+                rooms[p] = draw(draws++, 5);
+            } else {
+                lit |= 1 << draw(draws++, 4);
+            }
+        }
+        due.is("17: lit ones", seen, lit);
+        due.is("17: steam beside persons", x.told(9), steamed);
+        due.is("17: draws for persons", x.seed(0), seedAfter(draws));
+        for (int p = 0; p < 3; p++) {
+            due.is("17: where person " + p + " walked", x.person(p), rooms[p]);
+        }
+        // By seed 5 the first draw of 3 is 1: a single person walks, by the third draw.
+        GreetedMirrors y = Due.houseOf("h7 0;p0;");
+        y.seed(5);
+        y.drift(1);
+        long third = next(next(next(5)));
+        due.is("17: seed 5 draws a walk", next(5) / 65536 % 3, 1);
+        due.is("17: he walks there", y.person(0), third / 65536 % 7);
+        due.is("17: three draws", y.seed(0), third);
+    }
+
+    private static long next(long seed) {
+        return (seed * 1103515245L + 12345L) % 2147483648L;
     }
 
     private static void promise18() {

@@ -167,7 +167,26 @@ public final class HouseTest {
         due.is("3: undo after a fault", x.undo(), 8);
         due.is("3: the image after a fault", x.goBack(1), 1);
         x.greet(0, 1);
+        x.greet(0, 5);
+        x.step(1);
+        x.night();
+        x.greet(2, 3);
+        x.greet(1, 5);
+        x.greet(1, 5);
+        x.steam(3, true);
         x.door(0, true);
+        x.walk(1, 3);
+        x.keep(0);
+        x.keep(1);
+        x.night();
+        x.door(0, false);
+        x.step(0);
+        x.greet(0, 1);
+        x.step(1);
+        x.door(0, true);
+        x.greet(2, 3);
+        x.steam(3, true);
+        due.is("3: something is lit ahead of it", x.told(7), 1);
         Due.tell(x, Due.ROW);
         due.is("3: the same house again", x.house(), 6);
         due.same("3: all is new", Due.sightOf(x), Due.sightOf(Due.houseOf(Due.ROW)));
@@ -182,6 +201,17 @@ public final class HouseTest {
         due.is("3: a third house", x.house(), 2);
         due.is("3: no pair of a house ahead", x.mirror(1, 2), Due.NONE);
         due.is("3: no door of a house ahead", x.doorOf(0, 0), Due.UNKNOWN);
+        due.is("3: no persons of a house ahead", x.told(3), 0);
+        Due.tell(x, "h1 4;m0 2;");
+        due.is("3: a fourth house", x.house(), 1);
+        due.is("3: no breath of a house ahead", x.round(1, Due.NONE), 1);
+        Due.tell(x, "h1 1023;b2 5;");
+        x.house();
+        x.house();
+        due.is("3: an empty text again", x.told(0), 0);
+        due.is("3: no names of a house ahead", x.told(6), 0);
+        Due.tell(x, "h1 0;b2 5;");
+        due.is("3: breath is told once in each house", x.house(), 0);
     }
 
     private static void promise4() {
