@@ -582,25 +582,24 @@ public final class GreetedMirrors {
             faultPlace = NONE;
             skipBlanks();
             for (int clause = 0; clause < TEXT_LIMIT && place < length && fault == 0; clause++) {
-                readClause(house);
-                skipBlanks();
+                int word = readWord(house);
+                readNumbers(house, word);
+                readEnd();
             }
             length = 0;
             return fault;
         }
 
-        private void readClause(House house) {
+        private int readWord(House house) {
             int word = here();
             boolean canStand = house.rooms == 0 ? word == 'h' : isWord(word);
             if (!canStand) {
                 mark(MISPLACED, place);
             } else if (isOneTooMany(house, word)) {
                 mark(TOO_MANY, place);
-            } else {
-                place++;
-                readRest(house, word);
-                readEnd();
             }
+            place++;
+            return word;
         }
 
         private boolean isWord(int letter) {
@@ -627,7 +626,7 @@ public final class GreetedMirrors {
             }
         }
 
-        private void readRest(House house, int word) {
+        private void readNumbers(House house, int word) {
             switch (word) {
                 case 'h':
                     readRooms(house);
@@ -644,8 +643,10 @@ public final class GreetedMirrors {
                 case 'b':
                     readBreath(house);
                     break;
-                default:
+                case 'p':
                     readPerson(house);
+                    break;
+                default:
                     break;
             }
         }
@@ -707,7 +708,7 @@ public final class GreetedMirrors {
             }
         }
 
-        /** Its first figure is where a fault of the number stands; behind a fault nothing more is read. */
+        /** Its first figure is where a fault of the number stands; behind a fault nothing is read any more. */
         private int readNumber(int least, int most) {
             if (fault != 0) {
                 return 0;
@@ -732,11 +733,11 @@ public final class GreetedMirrors {
 
         private void readEnd() {
             skipBlanks();
-            if (here() == ';') {
-                place++;
-            } else {
+            if (here() != ';') {
                 mark(MISPLACED, place);
             }
+            place++;
+            skipBlanks();
         }
 
         private void skipBlanks() {
@@ -751,7 +752,7 @@ public final class GreetedMirrors {
 
         /** The letter at the place; behind the end a number that no letter has. */
         private int here() {
-            return place < length ? at(letters, place) : NONE;
+            return place >= 0 && place < length && place < letters.length ? letters[place] : NONE;
         }
 
         private void mark(int kind, int where) {
@@ -937,7 +938,6 @@ public final class GreetedMirrors {
         private final int[] here = new int[ROOM_LIMIT];
         private final int[] way = new int[PLACES * PLACES];
         private final int[] least = new int[PLACES << MIRROR_LIMIT];
-        private final int[] wayOn = new int[MIRROR_LIMIT];
         private int reachable;
         private int wanted;
         private int lit;
@@ -1035,15 +1035,15 @@ public final class GreetedMirrors {
 
         /** Fewest steps for all that is left, if that mirror is the next. */
         private int stepsBy(House house, int left, int from, int m) {
-            if (!has(left, m) || !isAllowed(house, left, m)) {
+            if (!has(left, m)) {
+                return NO_WAY;
+            }
+            int ahead = house.hungAhead(m);
+            int litByThen = lit | wanted & ~left;
+            if (ahead != NONE && !has(litByThen, ahead)) {
                 return NO_WAY;
             }
             return Math.min(NO_WAY, at(way, from * PLACES + m) + leastFrom(with(left, m, false), m));
-        }
-
-        private boolean isAllowed(House house, int left, int m) {
-            int ahead = house.hungAhead(m);
-            return ahead == NONE || has(lit | wanted & ~left, ahead);
         }
 
         private int leastFrom(int left, int from) {

@@ -1,7 +1,9 @@
 import java.io.IOException;
 import java.nio.file.Files;
 import java.nio.file.Path;
+import java.util.HashMap;
 import java.util.List;
+import java.util.Map;
 import java.util.regex.Matcher;
 import java.util.regex.Pattern;
 
@@ -53,8 +55,8 @@ public final class LanguageTest {
 
     /** Elements are reached in the guarded functions alone, and rows are made in fields and constructors alone. */
     private static void arrays(String code) {
-        // In at, put, fill and the two of copy; the states of Past, made and reached.
-        due.is("elements of rows", count("\\w\\[\\w+\\]", code.replaceAll("new \\w+\\[\\w+\\]", "")), 7);
+        // In at, put, fill and the two of copy; the letter that is read; the states of Past, made and reached.
+        due.is("elements of rows", count("\\w\\[\\w+\\]", code.replaceAll("new \\w+\\[\\w+\\]", "")), 8);
         for (String line : code.split("\n")) {
             if (line.contains("new ")) {
                 boolean field = line.matches("\\s*private (static )?final .*");
@@ -66,15 +68,31 @@ public final class LanguageTest {
 
     private static void methods(String code) {
         Matcher head = Pattern.compile("(?m)^( +)(?:public|private) (?:static )?[\\w\\[\\]]+ (\\w+)\\(([^)]*)\\) \\{$").matcher(code);
-        int found = 0;
+        Map<String, String> bodies = new HashMap<>();
         while (head.find()) {
-            found++;
             int end = code.indexOf("\n" + head.group(1) + "}", head.end());
             int lines = code.substring(head.start(), end).split("\n").length + 1;
+            bodies.merge(head.group(2), code.substring(head.end(), end), String::concat);
             due.is(head.group(2) + " has " + lines + " lines", lines <= 60 ? 1 : 0, 1);
             due.is(head.group(2) + " takes " + head.group(3), head.group(3).split(",").length <= 7 ? 1 : 0, 1);
         }
-        due.is("methods were found", found > 60 ? 1 : 0, 1);
+        due.is("methods were found", bodies.size() > 60 ? 1 : 0, 1);
+        for (String name : bodies.keySet()) {
+            int depth = depth(name, bodies, 0);
+            due.is(name + " opens " + depth + " calls", depth <= 8 ? 1 : 0, 1);
+        }
+    }
+
+    /** How many calls of the program's own stand open at once, at most; past 30 it is taken for a recursion. */
+    private static int depth(String name, Map<String, String> bodies, int above) {
+        int deepest = 0;
+        Matcher call = Pattern.compile("\\b(\\w+)\\(").matcher(bodies.get(name));
+        while (call.find() && above < 30) {
+            if (bodies.containsKey(call.group(1))) {
+                deepest = Math.max(deepest, depth(call.group(1), bodies, above + 1));
+            }
+        }
+        return deepest + 1;
     }
 
     private static void names(String code) {
