@@ -57,12 +57,14 @@ final class Due {
         for (int what = 5; what <= 12; what++) {
             sight.append(x.told(what)).append(' ');
         }
-        for (int m = 0; m < x.told(2); m++) {
+        int mirrors = x.told(2);
+        for (int m = 0; m < mirrors; m++) {
             for (int what = 0; what < 5; what++) {
                 sight.append(x.mirror(m, what)).append(' ');
             }
         }
-        for (int p = 0; p < x.told(3); p++) {
+        int persons = x.told(3);
+        for (int p = 0; p < persons; p++) {
             sight.append(x.person(p)).append(' ');
         }
         return sight.toString();
