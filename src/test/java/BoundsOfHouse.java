@@ -10,6 +10,7 @@ final class BoundsOfHouse {
         feedRefused(s);
         houseEmptiesTheText(s);
         houseIsNew(s);
+        houseHasNothingOfThoseAheadOfIt(s);
         houseForgets(s);
         houseTheSeedStays(s);
         houseHowManyMirrors(s);
@@ -136,6 +137,36 @@ final class BoundsOfHouse {
             s.is("told(" + what + ")", x.told(what), 0);
         }
         s.same("all of it", Due.sightOf(x), Due.sightOf(Due.houseOf(BoundsOfTerms.MOST)));
+    }
+
+    private static void houseHasNothingOfThoseAheadOfIt(Sentences s) {
+        s.of("Promise 3", "becomes THE HOUSE");
+        GreetedMirrors x = Due.houseOf(BoundsOfTerms.MOST);
+        Due.tell(x, BoundsOfTerms.MOST);
+        x.house();
+        for (int k = 0; k < 3; k++) {
+            Due.tell(x, "h2 2;m0 1;m0 1;");
+            x.house();
+            int[] want = {2, 0, 2, 0, 0, 0, 2, 0, 0, 0, 0, 0, 0, 0, 0, 0};
+            for (int what = 0; what <= 15; what++) {
+                s.is("told(" + what + ") of a house without DOORS and PERSONS", x.told(what), want[what]);
+            }
+            s.is("no pair", x.mirror(1, 2), Due.NONE);
+            s.is("no DOOR", x.step(1), Due.NOT);
+            s.is("BREATH of NAME 1, that is untold", x.round(1, Due.NONE), 1);
+        }
+        for (int k = 0; k < 3; k++) {
+            s.is("of an empty text", x.house(), 0);
+            for (int what = 0; what <= 15; what++) {
+                s.is("told(" + what + ") of an empty text", x.told(what), 0);
+            }
+        }
+        for (int k = 0; k < 3; k++) {
+            Due.tell(x, "h2 0;d0 1;b1 1;p0;");
+            s.is("a DOOR, a PERSON and BREATH of a NAME, once in each house", x.house(), 0);
+            s.is("one DOOR", x.told(1), 1);
+            s.is("one PERSON", x.told(3), 1);
+        }
     }
 
     private static void houseForgets(Sentences s) {

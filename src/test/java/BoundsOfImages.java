@@ -41,7 +41,10 @@ final class BoundsOfImages {
         GreetedMirrors x = Due.houseOf("h1 1;m0 0;");
         x.night();
         x.greet(0, 0);
+        x.ask(0, 0, true);
+        x.write(0, 0);
         s.is("the first", x.keep(0), 1);
+        s.is("what was ASKED and THE BOOK are as they were", x.told(13) + x.told(14), 2);
         s.is("nothing can be undone", x.told(15), 0);
         s.is("undo()", x.undo(), Due.NOT);
         x.night();
@@ -91,7 +94,11 @@ final class BoundsOfImages {
         x.step(1);
         x.greet(1, 9);
         x.night();
+        x.ask(0, 1, true);
+        x.write(0, 1);
         s.is("goBack(1)", x.goBack(1), 1);
+        s.is("what was ASKED is no part of it", x.told(13), 1);
+        s.is("nor is THE BOOK", x.told(14), 1);
         s.same("what is so", Due.sightOf(x), kept);
         s.is("nothing can be undone", x.told(15), 0);
         s.is("undo()", x.undo(), Due.NOT);

@@ -132,6 +132,21 @@ final class BoundsOfNights {
         s.is("three times", x.mirror(0, 1), 9);
         s.is("twice, the other MIRROR", x.mirror(1, 1), 1);
         s.is("its count", x.mirror(1, 4), 2);
+        GreetedMirrors y = Due.houseOf("h1 1023;m0 0;m0 1;m0 2;o0 1;");
+        y.greet(1, 1);
+        y.greet(2, 2);
+        for (int k = 0; k < 3; k++) {
+            s.is("both that are SPOILT have their NAMES", y.mirror(0, 1) + 10 * y.mirror(1, 1), 10);
+            s.is("the LIT one has its NAME", y.mirror(2, 1), 2);
+            y.greet(0, 9);
+            y.greet(1, 8);
+            y.greet(2, 7);
+        }
+        s.is("a SPOILT one has another one, too", y.mirror(0, 1), 9);
+        s.is("the later SPOILT one, too", y.mirror(1, 1), 8);
+        s.is("the LIT one, too", y.mirror(2, 1), 7);
+        s.is("what is LIT is so still", y.told(7), 4);
+        s.is("what is SPOILT is so still", y.told(8), 3);
     }
 
     private static void overNights(Sentences s) {

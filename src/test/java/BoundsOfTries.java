@@ -19,6 +19,7 @@ final class BoundsOfTries {
         howManyPairs(s);
         noneChanged(s);
         askNextBest(s);
+        noneChangedIfThatFits(s);
         nonePartsThem(s);
         called(s);
         roomsThatHaveAMirror(s);
@@ -216,12 +217,17 @@ final class BoundsOfTries {
         GreetedMirrors x = Due.houseOf("h1 7;m0 0;m0 0;m0 1;");
         s.is("like NAMES are no pair", x.changed(0), 2);
         s.is("two pairs", x.changed(-1), 2);
+        s.is("ASK NEXT", x.askNext(), 0);
         x.greet(1, 1);
         x.greet(1, 1);
         x.greet(1, 1);
         s.is("as told by the text: misnamed", x.mirror(1, 1), 1);
         s.is("as told by the text: two pairs", x.changed(-1), 2);
         s.is("as told by the text: the second", x.changed(1), 12);
+        x.greet(0, 2);
+        x.greet(0, 2);
+        x.greet(0, 2);
+        s.is("as told by the text: ASK NEXT", x.askNext(), 0);
         s.is("like ones alone", Due.houseOf("h1 0;m0 3;m0 3;m0 3;").changed(-1), 0);
     }
 
@@ -273,6 +279,23 @@ final class BoundsOfTries {
         s.is("one and one", y.askNext(), 3);
     }
 
+    private static void noneChangedIfThatFits(Sentences s) {
+        s.of("Terms 3", "ASK NEXT: the MIRROR and NAME (10 times the MIRROR and the NAME) by which these pairs (and none changed, if that fits) "
+            + "are told apart best:");
+        GreetedMirrors x = Due.houseOf("h1 0;m0 5;m0 6;m0 7;");
+        s.is("three pairs and none changed: two and two", x.askNext(), 5);
+        s.is("three pairs", x.changed(-1), 3);
+        x.ask(0, 5, true);
+        // 1 2 and none changed: by MIRROR 1, to which 6 is its own NAME.
+        s.is("one pair and none changed, where more did fit ahead of it", x.askNext(), 16);
+        x.ask(1, 6, false);
+        s.is("one pair alone", x.askNext(), Due.NONE);
+        x.tear();
+        x.ask(0, 5, false);
+        // 0 1 and 0 2, but not none: by MIRROR 0 and NAME 6.
+        s.is("two pairs, without none changed", x.askNext(), 6);
+    }
+
     private static void nonePartsThem(Sentences s) {
         s.of("Terms 3", "NONE: none parts them.");
         s.is("no MIRRORS", Due.houseOf("h1 0;").askNext(), Due.NONE);
@@ -316,6 +339,13 @@ final class BoundsOfTries {
         x.steam(6, true);
         s.is("STEAM in both", x.mostSeen(0), Due.NONE);
         s.is("how many", x.mostSeen(1), Due.NONE);
+        GreetedMirrors y = Due.houseOf("h1 3;m0 0;m0 1;o0 1;");
+        y.greet(1, 1);
+        s.is("a ROOM of SPOILT ones has MIRRORS, too", y.mostSeen(0), 0);
+        y.night();
+        y.greet(0, 0);
+        y.greet(1, 1);
+        s.is("a ROOM of LIT ones, too", y.mostSeen(0), 0);
         s.is("no ROOM has a MIRROR", Due.houseOf("h2 0;p0;").mostSeen(0), Due.NONE);
     }
 
@@ -485,6 +515,12 @@ final class BoundsOfTries {
         y.seed(seedOf(2));
         y.drift(1);
         s.is("the count is over", y.mirror(0, 4), 0);
+        y.night();
+        y.greet(0, 1);
+        y.greet(0, 1);
+        y.greet(0, 1);
+        y.seed(seedOf(2));
+        s.is("by the NAME that it has now", y.drift(1), 1);
         // The later one of two is drawn first: both are SPOILT.
         GreetedMirrors z = Due.houseOf("h7 0;m6 0;m6 0;o0 1;");
         int seed = 0;
@@ -578,12 +614,16 @@ final class BoundsOfTries {
         x.steam(3, true);
         x.door(2, true);
         String ahead = Due.sightOf(x);
-        x.drift(40);
-        int seed = x.seed(6);
-        s.is("THE SEED was drawn by", seed == 0 ? 1 : 0, 0);
+        x.seed(seedOf(0));
+        x.drift(1);
         x.undo();
-        s.same("the evenings are undone", Due.sightOf(x), ahead);
-        s.is("THE SEED stays", x.seed(0), 6);
+        s.same("the evening is undone", Due.sightOf(x), ahead);
+        s.is("THE SEED stays as it was drawn", x.seed(5), Sentences.seedAfter(seedOf(0), 2));
+        x.drift(40);
+        x.seed(6);
+        x.undo();
+        s.same("forty evenings are undone", Due.sightOf(x), ahead);
+        s.is("THE SEED stays as it was sown", x.seed(0), 6);
         x.night();
         x.undo();
         s.same("the night is undone", Due.sightOf(x), ahead);
@@ -593,6 +633,12 @@ final class BoundsOfTries {
         x.undo();
         x.undo();
         s.same("NAME and count are as they were", Due.sightOf(x), ahead);
+        x.ask(0, 1, true);
+        x.write(0, 1);
+        x.night();
+        x.undo();
+        s.is("what was ASKED is no part of it", x.told(13), 1);
+        s.is("nor is THE BOOK", x.told(14), 1);
     }
 
     private static void images(Sentences s) {
